@@ -1,7 +1,7 @@
 /** Counts the answers that are not as due, and ends the test by them. */
 final class Due {
     private final String test;
-    private int promise;
+    private String asksFor = "the document";
     private int checks;
     private int wrong;
 
@@ -11,14 +11,19 @@ final class Due {
 
     /** What follows is asked for by this promise. */
     void promise(int number) {
-        promise = number;
+        asksFor = "promise " + number;
+    }
+
+    /** What follows is asked for by these words of the document, which stand at this place of it. */
+    void says(String place, String words) {
+        asksFor = place + " (\"" + words + "\")";
     }
 
     void is(String call, long got, long want) {
         checks++;
         if (got != want) {
             wrong++;
-            System.out.println("promise " + promise + ": " + call + " answered " + got + ", due is " + want);
+            System.out.println(asksFor + ": " + call + " answered " + got + ", due is " + want);
         }
     }
 
