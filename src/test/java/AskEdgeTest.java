@@ -4,6 +4,7 @@ public final class AskEdgeTest {
 
     public static void main(String[] args) {
         sixAskers();
+        askersAtFirst();
         costsAtFirst();
         costEdges();
         costOfNoMirror();
@@ -90,6 +91,21 @@ public final class AskEdgeTest {
                 DUE.is("asker(" + odd + ", " + what + ")", x.asker(odd, what), -1);
             }
         }
+    }
+
+    private static void askersAtFirst() {
+        DUE.says("Terms III", "the LAST STATE he saw (NONE at first)");
+        MirrorNet x = net(1);
+        for (int a = 0; a < 6; a++) {
+            DUE.is("asker(" + a + ", 0)", x.asker(a, 0), -1);
+            DUE.is("asker(" + a + ", 1)", x.asker(a, 1), 9999);
+            DUE.is("asker(" + a + ", 2)", x.asker(a, 2), 0);
+        }
+        MirrorNet y = Nets.addMirrors(new MirrorNet(), 1);
+        y.cost(0, 0, 1);
+        y.ask(0, 1);
+        DUE.is("state 0 is not NONE", y.asker(0, 0), 0);
+        DUE.is("and not ahead of state 0", y.ask(0, 1), 2);
     }
 
     private static void costsAtFirst() {

@@ -30,6 +30,9 @@ public final class MirrorEdgeTest {
         theMostInATick();
         fallenInTheLastTickOfAFile();
         gapOfOneTick();
+        theShelfHasAll();
+        theSourceHasItNot();
+        aTargetOfNothing();
         keepOfNone();
         keepOfThree();
         fullSet();
@@ -481,6 +484,69 @@ public final class MirrorEdgeTest {
         y.fall(1, 1, 1);
         y.pass(1);
         DUE.is("both fallen: DONE is lost", y.about(1, 4), 0);
+    }
+
+    private static void theShelfHasAll() {
+        DUE.says("Terms I", "The SHELF has all FILES.");
+        MirrorNet x = Nets.withFiles(10);
+        x.mirror(-1, 9, 0);
+        x.put(0, 0);
+        x.pass(1);
+        x.yank(0);
+        x.pass(1);
+        DUE.is("a yanked file can be ended", x.has(0, 0), 1);
+        DUE.is("with the INDEX that names it", x.about(0, 0), 1);
+        x.pass(1);
+        DUE.is("the next INDEX drops it", x.about(0, 0) * 10 + x.has(0, 0), 20);
+    }
+
+    /** Mirror 1 copies files 0 and 1 of state 2 from mirror 0, which then drops file 1, at so many bytes a tick. */
+    private static MirrorNet dropped(int speed) {
+        MirrorNet x = Nets.withFiles(6, 6, 1);
+        x.mirror(-1, 1000, 0);
+        x.mirror(0, 3, 0);
+        x.put(0, 0);
+        x.put(1, 1);
+        x.pass(1);
+        x.put(1, 2);
+        x.speed(1, speed);
+        x.pass(1);
+        return x;
+    }
+
+    private static void theSourceHasItNot() {
+        DUE.says("Terms II", "if what it copies from has it not: the TARGET is gone, DONE is 0, and its TICK is over.");
+        int[][] due = {{2, 2, 0, 5}, {3, 2, 1, 0}, {4, -1, 1, 0}};
+        for (int[] one : due) {
+            MirrorNet x = dropped(one[0]);
+            DUE.is("TARGET at speed " + one[0], x.about(1, 1), one[1]);
+            DUE.is("files at speed " + one[0], x.about(1, 2), one[2]);
+            DUE.is("DONE at speed " + one[0], x.about(1, 4), one[3]);
+            DUE.is("INDEX at speed " + one[0], x.about(1, 0), 0);
+            DUE.is("taken at speed " + one[0], x.about(1, 5), Math.min(6, 3 + one[0]));
+        }
+        MirrorNet x = dropped(4);
+        x.pass(1);
+        DUE.is("the next tick is with the new one", x.about(1, 0), 3);
+        DUE.is("which wanted a byte", x.about(1, 5), 7);
+    }
+
+    private static void aTargetOfNothing() {
+        DUE.says("Terms II", "(d) With a TARGET all of whose FILES it has: that is its INDEX, the TARGET is gone");
+        MirrorNet x = Nets.withFiles(1, 1);
+        x.mirror(-1, 1, 0);
+        x.yank(1);
+        x.pass(1);
+        DUE.is("a state that names nothing", x.about(0, 0), 1);
+        DUE.is("the TARGET is gone", x.about(0, 1), -1);
+        x.put(0, 0);
+        x.put(11, 0);
+        x.pass(1);
+        DUE.is("a state of one byte", x.about(0, 0), 3);
+        x.put(5, 0);
+        x.pass(1);
+        DUE.is("a state of what it has", x.about(0, 0), 4);
+        DUE.is("bytes taken", x.about(0, 5), 1);
     }
 
     /** State 1 to 5 name file 0 to 4, each in its tick. */

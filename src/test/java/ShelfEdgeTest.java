@@ -4,6 +4,7 @@ public final class ShelfEdgeTest {
 
     public static void main(String[] args) {
         emptyObject();
+        nowAtBothEnds();
         sixtyFiles();
         sizes();
         packages();
@@ -45,6 +46,16 @@ public final class ShelfEdgeTest {
         DUE.is("has of no mirror", x.has(0, 0), -1);
         DUE.is("ask of no mirror", x.ask(0, 1), 1);
         DUE.is("an empty net passes", x.pass(500), 500);
+    }
+
+    private static void nowAtBothEnds() {
+        DUE.says("Terms I", "NOW is a TICK, 0 to 9999 (0 at first)");
+        MirrorNet x = new MirrorNet();
+        DUE.is("NOW at first", x.count(0), 0);
+        Nets.goTo(x, 9999);
+        DUE.is("NOW at last", x.count(0), 9999);
+        DUE.is("no tick behind it", x.pass(1), -1);
+        DUE.is("NOW still", x.count(0), 9999);
     }
 
     private static void sixtyFiles() {
