@@ -38,6 +38,7 @@ public final class AskEdgeTest {
         badOfAll();
         foresightEdges();
         foresightOfOtherStates();
+        foresightOfOtherFiles();
         foresightOfLast();
         foresightOfAgeAndGrace();
         DUE.end();
@@ -672,6 +673,42 @@ public final class AskEdgeTest {
         MirrorNet y = badButHonest();
         DUE.is("packages 0 and 11", y.ask(0, 1 | 1 << 11), 0);
         came(y, "state 2 names no file for package 11", 4, 150, 3, 2, -1, 105);
+    }
+
+    /**
+     * At tick 2 mirror 0 (of cost 5, honest, but BAD to asker 0) is at state 2 and mirror 1 (of cost 50) at state 3:
+     * they name the same file for the package that is alike, and two files for the other. LAST is NONE.
+     */
+    private static MirrorNet otherFileFor(int other, int alike) {
+        MirrorNet x = Nets.addMirrors(Nets.withFiles(10, 20, 500), 2);
+        x.put(other, 0);
+        x.put(alike, 1);
+        x.pass(1);
+        x.speed(0, 1);
+        x.put(other, 2);
+        x.cost(0, 0, 5);
+        x.lies(0, true);
+        x.ask(0, 1 << alike);
+        x.lies(0, false);
+        x.cost(0, 1, 50);
+        x.pass(1);
+        return x;
+    }
+
+    private static void foresightOfOtherFiles() {
+        DUE.says("Terms III", "an INDEX with the same FILES for these PACKAGES");
+        for (int other = 0; other < 12; other++) {
+            int alike = (other + 1) % 12;
+            MirrorNet x = otherFileFor(other, alike);
+            DUE.is("package " + alike, x.ask(0, 1 << alike), 0);
+            came(x, "another file for " + other + " alone", 3, 100, 2, 1, -1, 10);
+            MirrorNet y = otherFileFor(other, alike);
+            DUE.is("package " + other, y.ask(0, 1 << other), 0);
+            came(y, "another file for " + other, 3, 100, 2, 1, -1, 100);
+            MirrorNet z = otherFileFor(other, alike);
+            DUE.is("packages " + other + " and " + alike, z.ask(0, 1 << other | 1 << alike), 0);
+            came(z, "another file for one of two", 3, 150, 3, 2, -1, 105);
+        }
     }
 
     private static void foresightOfLast() {

@@ -21,11 +21,18 @@ public final class FaceTest {
         "int ask(int,int)", "int asked(int)", "int got(int,int)", "int asker(int,int)",
         "int names(int,int)", "int state(int,int)", "int about(int,int)", "int has(int,int)", "int count(int)");
 
+    /** The library calls that the class makes; one that is not here is looked for in rule 4 first. */
+    private static final Set<String> LIBRARY = Set.of(
+        "Arrays.fill", "System.arraycopy", "Math.min", "Integer.bitCount", "Long.bitCount");
+
     public static void main(String[] args) throws Exception {
         theMethods();
         theRest();
         theNestedClasses();
-        theSource();
+        String code = codeOf(Files.readString(Path.of("src/main/java/MirrorNet.java")));
+        theWords(code);
+        theLibrary(code);
+        theLengths(code);
         DUE.end();
     }
 
@@ -82,22 +89,56 @@ public final class FaceTest {
             DUE.is(one + " has some twenty fields at most", one.getDeclaredFields().length <= 20, true);
             for (Method method : one.getDeclaredMethods()) {
                 DUE.is(method + " takes seven at most", method.getParameterCount() <= 7, true);
+                boolean isOfTheFace = FACE.stream().anyMatch(told -> told.contains(" " + method.getName() + "("));
+                DUE.is(method + " has a name of its own", isOfTheFace, false);
+            }
+            for (Field field : one.getDeclaredFields()) {
+                int sort = field.getModifiers();
+                DUE.is(field + " is no static state", Modifier.isStatic(sort) && !Modifier.isFinal(sort), false);
             }
         }
     }
 
-    private static void theSource() throws Exception {
-        String source = Files.readString(Path.of("src/main/java/MirrorNet.java"));
-        String code = source.replaceAll("(?s)/\\*.*?\\*/", " ").replaceAll("//[^\n]*", " ");
+    private static String codeOf(String source) {
+        return source.replaceAll("(?s)/\\*.*?\\*/", " ").replaceAll("//[^\n]*", " ");
+    }
+
+    private static void theWords(String code) {
         Matcher refused = Pattern.compile(
-            "\\b(throw|throws|try|catch|finally|synchronized|assert|package|Object|hashCode|equals|toString)\\b|->|::|Exact\\b")
+            "\\b(throw|throws|try|catch|finally|synchronized|assert|package|protected|native|Object|hashCode|equals|toString)\\b"
+            + "|->|::|\"|Exact\\b|\\bwhile *\\( *true *\\)|\\bfor *\\([^;)]*;\\s*;|\\bstatic *\\{")
             .matcher(code);
         while (refused.find()) {
             DUE.is("'" + refused.group() + "' in the source", true, false);
         }
+        Matcher shown = Pattern.compile("\\bpublic ").matcher(code);
+        int seen = 0;
+        while (shown.find()) {
+            seen++;
+        }
+        DUE.is("public ones: the class, NONE, the constructor, the calls", seen, 3 + FACE.size());
+    }
+
+    private static void theLibrary(String code) {
         Matcher imports = Pattern.compile("(?m)^import\\s+(.*);").matcher(code);
         while (imports.find()) {
             DUE.is("import " + imports.group(1), imports.group(1).equals("java.util.Arrays"), true);
         }
+        Matcher calls = Pattern.compile("\\b[A-Z][a-z]+\\.[a-z]\\w*").matcher(code);
+        while (calls.find()) {
+            DUE.is(calls.group() + " is a library call that was held against rule 4", LIBRARY.contains(calls.group()), true);
+        }
+    }
+
+    /** A method ends with the first brace that stands as far in as its own first line. */
+    private static void theLengths(String code) {
+        Matcher methods = Pattern.compile("(?m)^( +)(?:public|private) [^;={]*\\([^;={]*\\{\n(?s:.*?)\n\\1\\}$").matcher(code);
+        int seen = 0;
+        while (methods.find()) {
+            seen++;
+            String text = methods.group().strip();
+            DUE.is(text.lines().findFirst().get() + " has some sixty lines at most", text.lines().count() <= 60, true);
+        }
+        DUE.is("methods are seen", seen > FACE.size(), true);
     }
 }

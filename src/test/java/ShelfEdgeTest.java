@@ -333,9 +333,10 @@ public final class ShelfEdgeTest {
         DUE.is("names(12, 11)", x.names(12, 11), 2);
         DUE.is("none yet for package 11", x.names(11, 11), -1);
         DUE.is("the package behind the last, with a state behind it", x.names(11, 12), -1);
-        DUE.is("the package ahead of the first, with a state ahead of it", x.names(12, -1), -1);
         DUE.is("the state behind the latest", x.names(13, 0), -1);
         DUE.is("neither, though in one row of all states it would be package 0 of the latest", x.names(13, -12), -1);
+        x.put(0, 1);
+        DUE.is("the package ahead of the first, though the state ahead names a file for its last one", x.names(13, -1), -1);
         for (int odd : Nets.NEVER) {
             DUE.is("names(" + odd + ", 0)", x.names(odd, 0), -1);
             DUE.is("names(12, " + odd + ")", x.names(12, odd), -1);
